@@ -434,7 +434,7 @@ public final class RingThreads {
         int most = 0;
         for (int spool = 0; spool < SPOOLS; spool++) {
             trial.now = spool;
-            int nail = trial.nailOfMostGain();
+            int nail = trial.bestNail();
             if (nail != NONE) {
                 int gain = trial.gainTo(nail);
                 if (found == NONE || gain > most) {
@@ -781,7 +781,8 @@ public final class RingThreads {
         int squaresOfSign(int sign) {
             int many = 0;
             for (int square = 0; square < SQUARES; square++) {
-                if (Integer.compare(lackOf(square), 0) == sign) {
+                int lack = lackOf(square);
+                if ((lack > 0 ? 1 : lack < 0 ? -1 : 0) == sign) {
                     many++;
                 }
             }
@@ -839,7 +840,7 @@ public final class RingThreads {
             return found;
         }
 
-        /** The lowest nail of those with the most gain, where times and lengths don't decide. */
+        /** The lowest nail of those with the most gain: for the best two, times and lengths don't decide. */
         int nailOfMostGain() {
             int found = NONE;
             int most = 0;

@@ -17,7 +17,11 @@ final class FaceTest {
         Check.equal("want(11, 3, 9)", 0, x.want(11, 3, 9));
         Check.equal("want(11, 3, 4)", 9, x.want(11, 3, 4));
         Check.equal("grey", 4, x.square(11, 3, 0));
+        Check.equal("want(11, 3, 0)", 4, x.want(11, 3, 0));
+        Check.equal("want(11, 3, 4)", 0, x.want(11, 3, 4));
         Check.equal("the other way is another square", 0, x.square(3, 11, 0));
+        x.undo();
+        x.undo();
         x.undo();
         Check.equal("grey behind undo", 9, x.square(11, 3, 0));
         Check.outside("want(12, 0, 10)", x, () -> x.want(12, 0, 10));

@@ -1,7 +1,10 @@
+import java.util.List;
+
 /** All promises: drawn runs of calls, whose answers and exceptions are compared with those of RingModel. */
 final class ModelTest {
     private static final int RUNS = 120;
     private static final int CALLS_A_RUN = 500;
+    private static final int LONG_RUNS = 6;
     private static final int[] CODES = {'a', 'b', 'g', 'l', 'm', '0', '5', '9', '5', '1', '*', '*', ';', ';', '~', 32, 127};
     private static final String[] TEXTS = {
         "a*5", "g*9;f*9", "c123456789012", "b1;b2", "d*4;d12", "e0123456789012", "h*7;i*7;j*7;k*7;l*7", "a;", "f*9;g*9;h*9"
@@ -21,6 +24,9 @@ final class ModelTest {
         for (int run = 0; run < RUNS; run++) {
             new ModelTest(run).drive();
         }
+        for (int run = RUNS; run < RUNS + LONG_RUNS; run++) {
+            new ModelTest(run).driveLong();
+        }
         Check.end();
     }
 
@@ -35,20 +41,59 @@ final class ModelTest {
             int kind = draw(100);
             if (kind < 3) {
                 String text = TEXTS[draw(TEXTS.length)];
-                for (int i = 0; i < text.length(); i++) {
-                    compare(9, text.charAt(i), 0, 0);
-                }
-                compare(draw(4) == 0 ? 11 : 12, 0, 0, 0);
+                type(text);
+                call(draw(4) == 0 ? "firstError" : "load", 0, 0, 0);
                 calls += text.length() + 1;
             } else if (kind < 40) {
-                compare(4, number(26), 0, 0);
+                call("wind", number(26), 0, 0);
                 calls++;
             } else {
                 drawn(draw(RingModel.CALLS.length));
                 calls++;
             }
         }
-        compare(30, 0, 0, 0);
+        call("digest", 0, 0, 0);
+    }
+
+    /** Chords laid up to 200, and looked at from there on. */
+    private void driveLong() {
+        call("nails", 24, 0, 0);
+        call("set", 1, 9, 0);
+        call("spool", 1, 1 + run % 3, 9999);
+        call("knot", 1, 0, 0);
+        type("c*9;d*9;h123456789987");
+        call("load", 0, 0, 0);
+        for (int i = 0; i < 260 && asked("count", 3) < 200; i++) {
+            call("wind", (int) (asked("count", 1) + 1 + draw(2)) % 24, 0, 0);
+        }
+        Check.equal("run " + run + ": chords that lie", 200, asked("count", 3));
+        for (int i = 0; i < 8; i++) {
+            call("wind", draw(24), 0, 0);
+            call("bestTwo", 0, 0, 0);
+            call("best", 0, 0, 0);
+            call("bestSpool", 0, 0, 0);
+            call("count", 8, 0, 0);
+            call("windBest", 1 + draw(3), 0, 0);
+            call("count", 3, 0, 0);
+            call(draw(2) == 0 ? "unwind" : "undo", 0, 0, 0);
+            call("knot", draw(3), 0, 0);
+        }
+        call("digest", 0, 0, 0);
+    }
+
+    private void call(String name, int a, int b, int c) {
+        compare(List.of(RingModel.CALLS).indexOf(name), a, b, c);
+    }
+
+    /** What the model answers: the ring has but 512 calls. */
+    private long asked(String name, int what) {
+        return model.call(List.of(RingModel.CALLS).indexOf(name), what, 0, 0);
+    }
+
+    private void type(String text) {
+        for (int i = 0; i < text.length(); i++) {
+            call("append", text.charAt(i), 0, 0);
+        }
     }
 
     /** Mostly in range, at times just outside it, seldom far away. */

@@ -11,6 +11,7 @@ final class SnapshotTest {
         wrongSlots();
         allButTheBuffer();
         undone();
+        chordsUndone();
         sixStates();
         eachUndoable();
         notUndoable();
@@ -40,6 +41,8 @@ final class SnapshotTest {
         x.goBack(1);
         Check.equal("nails of the snapshot", 4, x.count(0));
         x.goBack(0);
+        Check.equal("the chord of the first one: from", 0, x.wound(0, 0));
+        Check.equal("the chord of the first one: to", 6, x.wound(0, 1));
         x.wind(3);
         Check.equal("a snapshot does not change with the ring", 1, x.goBack(0));
         Check.equal("nails of the first one", 12, x.count(0));
@@ -88,6 +91,37 @@ final class SnapshotTest {
         Check.equal("undo()", 0, x.undo());
         Check.equal("all is new", new RingThreads().digest(), x.digest());
         Check.state("undo() again", x, () -> x.undo());
+    }
+
+    private static void chordsUndone() {
+        RingThreads x = new RingThreads();
+        x.wind(6);
+        x.knot(2);
+        x.wind(1);
+        x.knot(1);
+        x.keep(0);
+        x.wind(8);
+        x.nails(24);
+        x.wind(13);
+        x.undo();
+        x.undo();
+        String due = "1 8 1, 6 1 2, 0 6 0, ";
+        Check.equal("chords behind undo of nails", due, chords(x));
+        x.nails(8);
+        x.wind(3);
+        x.goBack(0);
+        Check.equal("chords behind goBack", due.substring(7), chords(x));
+        Check.equal("unwind()", 6, x.unwind());
+        Check.equal("its spool", 2, x.count(2));
+    }
+
+    private static String chords(RingThreads x) {
+        StringBuilder text = new StringBuilder();
+        for (int ago = 0; ago < x.count(3); ago++) {
+            text.append(x.wound(ago, 0)).append(' ').append(x.wound(ago, 1)).append(' ').append(x.wound(ago, 2));
+            text.append(", ");
+        }
+        return text.toString();
     }
 
     private static void sixStates() {

@@ -74,6 +74,9 @@ final class SpoolsTest {
             }
         }
         Check.equal("all thread that lies", 288, x.count(11));
+        x.knot(1);
+        x.wind(1);
+        Check.equal("all thread that lies, of three spools", 319, x.count(11));
         Check.outside("spoolOf(3, 9)", x, () -> x.spoolOf(3, 9));
         Check.outside("spoolOf(-1, 0)", x, () -> x.spoolOf(-1, 0));
         Check.argument("spoolOf(0, 5)", x, () -> x.spoolOf(0, 5));

@@ -10,6 +10,7 @@ final class WindTest {
         unwound();
         twoHundred();
         best();
+        bestOfGainNoneOrOne();
         bestUpTo200();
         Check.end();
     }
@@ -167,6 +168,57 @@ final class WindTest {
         Check.equal("wound so far", 0, x.count(4));
         Check.equal("windBest(3)", 3, x.windBest(3));
         Check.equal("chords", 3, x.count(3));
+    }
+
+    private static void bestOfGainNoneOrOne() {
+        RingThreads x = new RingThreads();
+        x.set(0, 6);
+        x.set(2, 1);
+        Check.load(x, "g1111110");
+        Check.equal("gain(6) is 0", 10000, x.gain(6));
+        Check.equal("windBest(1) without a gain", 0, x.windBest(1));
+        x.want(5, 6, 2);
+        Check.equal("gain(6) is 0 still", 10000, x.gain(6));
+        Check.equal("windBest(1) without a gain", 0, x.windBest(1));
+        x.spool(1, 2, 2000);
+        x.want(6, 6, 2);
+        x.knot(1);
+        Check.equal("gain(6) of the darker thread", 10000 + 2 + 2 - 10 * 2 + 5 * 2, x.gain(6));
+        Check.load(x, "g222222200000");
+        x.want(11, 6, 1);
+        x.want(10, 6, 1);
+        x.want(9, 6, 1);
+        Check.equal("gain(6) is above 0", 10000 + 14 - 4, x.gain(6));
+        x.want(0, 6, 1);
+        x.want(1, 6, 1);
+        x.want(2, 6, 1);
+        x.want(3, 6, 1);
+        Check.equal("gain(6) is above 0 still", 10000 + 6 - 4, x.gain(6));
+        Check.equal("windBest(2)", 1, x.windBest(2));
+        gainOfOne();
+    }
+
+    private static void gainOfOne() {
+        RingThreads x = new RingThreads();
+        x.nails(4);
+        x.set(0, 1);
+        x.set(2, 1);
+        int squares = x.chord(0, 1, 1);
+        Check.equal("the chord crosses an odd number of squares", 1, squares % 2);
+        wantAlong(x, squares / 2 + 1);
+        Check.equal("gain(1) is 1", 10001, x.gain(1));
+        Check.equal("best()", 1, x.best());
+        Check.equal("windBest(9)", 1, x.windBest(9));
+    }
+
+    /** Wants a grey in so many squares of the chord from the nail 0 to the nail 1 of 4. */
+    private static void wantAlong(RingThreads x, int many) {
+        String way = "11,6 11,7 10,7 10,8 9,8 9,9 8,9 8,10 7,10 7,11 6,11";
+        String[] squares = way.split(" ");
+        for (int i = 0; i < many; i++) {
+            String[] square = squares[i].split(",");
+            x.want(Integer.parseInt(square[0]), Integer.parseInt(square[1]), 1);
+        }
     }
 
     private static void bestUpTo200() {

@@ -10,6 +10,7 @@ final class WouldBeTest {
         bestOfSeveral();
         bestTwo();
         bestTwoBackAndForth();
+        bestTwoByTrial();
         palest();
         bestSpool();
         share();
@@ -28,6 +29,13 @@ final class WouldBeTest {
         for (int what = 0; what < due.length; what++) {
             Check.equal("count(" + what + ")", due[what], x.count(what));
         }
+        x.want(0, 0, 9);
+        x.knot(0);
+        x.set(1, 3);
+        x.wind(6);
+        x.wind(3);
+        Check.equal("misfit told by squares", 18 + 8 + 0 + 11 + 6 * 5, x.count(7));
+        Check.equal("misfit told by gains", x.count(7), x.count(8));
         Check.argument("count(13)", x, () -> x.count(13));
         Check.argument("count(-1)", x, () -> x.count(-1));
     }
@@ -132,11 +140,51 @@ final class WouldBeTest {
         x.knot(1);
         Check.isTrue("one chord alone", x.best() != RingThreads.NONE);
         Check.equal("no second one", RingThreads.NONE, x.bestTwo());
+        x.knot(0);
+        x.set(1, 3);
+        x.wind(6);
+        Check.equal("the nail 0 first", 6, x.bestTwo());
+    }
+
+    /** All pairs of chords wound and unwound again, on faces of many greys and from several nails. */
+    private static void bestTwoByTrial() {
+        String[] faces = {"a*9;b*9;c*9;d*9;e*9;f*9;g*9;h*9;i*9;j*9;k*9;l*9", "c*5;h12345678;j*3", "a1;f*2;g*2;l000000000009"};
+        for (String face : faces) {
+            for (int from = 1; from < 8; from += 3) {
+                RingThreads x = new RingThreads();
+                x.nails(8);
+                x.set(1, 2);
+                Check.load(x, face);
+                x.wind(from);
+                Check.equal("bestTwo() from " + from + " of " + face, twoByTrial(x), x.bestTwo());
+            }
+        }
+    }
+
+    private static int twoByTrial(RingThreads x) {
+        int found = RingThreads.NONE;
+        int least = Integer.MAX_VALUE;
+        for (int first = 0; first < 8; first++) {
+            if (x.whyNot(first) == 0) {
+                x.wind(first);
+                for (int second = 0; second < 8; second++) {
+                    int misfit = x.count(7) - x.gain(second);
+                    if (x.whyNot(second) == 0 && misfit < least) {
+                        least = misfit;
+                        found = 100 * first + second;
+                    }
+                }
+                x.unwind();
+            }
+        }
+        return found;
     }
 
     private static void palest() {
         RingThreads x = new RingThreads();
         Check.equal("palest() of a bare face", RingThreads.NONE, x.palest());
+        x.want(0, 0, 1);
+        Check.equal("the first square", 0, x.palest());
         x.want(7, 3, 2);
         x.want(2, 9, 2);
         x.want(11, 3, 2);
