@@ -4,8 +4,18 @@ import java.util.Objects;
 final class Check {
     private static int right = 0;
     private static int wrong = 0;
+    private static String heading = "";
 
     private Check() {
+    }
+
+    /** What stands ahead of each fault that is told from here on. */
+    static void heading(String words) {
+        heading = words;
+    }
+
+    static int made() {
+        return right + wrong;
     }
 
     static void equal(String what, Object due, Object got) {
@@ -13,7 +23,7 @@ final class Check {
             right++;
         } else {
             wrong++;
-            System.out.println(what + " answered " + got + ", due is " + due);
+            System.out.println(heading + what + " answered " + got + ", due is " + due);
         }
     }
 

@@ -51,7 +51,8 @@ final class DigestTest {
         }
     }
 
-    private static void compare(String what, Consumer<RingThreads> recipe, int slots, String buffer) {
+    /** The slots: 1 for the first one that has a snapshot, and 2 for the second one. */
+    static void compare(String what, Consumer<RingThreads> recipe, int slots, String buffer) {
         long due = new DigestTest(recipe).due(slots, buffer);
         Check.equal("digest() of " + what, due, made(recipe).digest());
     }

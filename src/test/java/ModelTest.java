@@ -3,7 +3,7 @@ import java.util.List;
 /** All promises: drawn runs of calls, whose answers and exceptions are compared with those of RingModel. */
 final class ModelTest {
     private static final int RUNS = 120;
-    private static final int CALLS_A_RUN = 500;
+    private static final int CALLS_A_RUN = 480;
     private static final int LONG_RUNS = 6;
     private static final int[] CODES = {'a', 'b', 'g', 'l', 'm', '0', '5', '9', '5', '1', '*', '*', ';', ';', '~', 32, 127};
     private static final String[] TEXTS = {
