@@ -19,19 +19,10 @@ final class BestBounds {
 
     static void run(Sentences doc) {
         BestBounds bounds = new BestBounds(doc);
-        bounds.gainOfLacks();
-        bounds.gain();
-        bounds.greatestGain();
-        bounds.fewestTimes();
-        bounds.shortest();
-        bounds.lowestNail();
-        bounds.best();
-        bounds.notRefusedThen();
-        bounds.bothGains();
-        bounds.lowestOfTwo();
-        bounds.bestTwo();
-        bounds.bestSpool();
-        bounds.bestSpoolOfSeveral();
+        doc.run(
+            bounds::gainOfLacks, bounds::gain, bounds::greatestGain, bounds::fewestTimes, bounds::shortest,
+            bounds::lowestNail, bounds::best, bounds::notRefusedThen, bounds::bothGains, bounds::lowestOfTwo,
+            bounds::bestTwo, bounds::bestSpool, bounds::bestSpoolOfSeveral);
     }
 
     /** Of 4 nails, the chord from 0 to 3 crosses 7 squares, of which (9, 3) is the only one that can be wanted. */
@@ -45,7 +36,8 @@ final class BestBounds {
     }
 
     private void gainOfLacks() {
-        doc.named("The face", "The gain of a chord with the spool of now is by how much less the misfit would be with it");
+        doc.named("The face",
+            "The gain of a chord with the spool of now is by how much less the misfit would be with it");
         int[] due = {-3, -1, 1, 3, 3};
         for (int lack = 0; lack <= 4; lack++) {
             Check.equal("the gain of the shade 3 on a lack of " + lack, due[lack], gainOf(3, lack));
@@ -54,7 +46,8 @@ final class BestBounds {
         Check.equal("the gain of the shade 9 on a lack of 1", -7, gainOf(9, 1));
         Check.equal("the gain of the shade 1 on a lack of 1", 1, gainOf(1, 1));
         doc.named("The face", "it can be below 0");
-        Check.equal("the gain of the shade 9 on 7 squares of too much", 10000 - 7 * 9, Twins.made(Rings.thread(9, 2000).andThen(y -> {
+        Check.equal("the gain of the shade 9 on 7 squares of too much", 10000 - 7 * 9,
+            Twins.made(Rings.thread(9, 2000).andThen(y -> {
             y.nails(4);
             y.set(1, 2);
             y.wind(3);
@@ -246,7 +239,8 @@ final class BestBounds {
     }
 
     private void notRefusedThen() {
-        doc.named("The face", "the chord to a nail that is not refused, and then a chord from there that would not be refused then");
+        doc.named("The face",
+            "the chord to a nail that is not refused, and then a chord from there that would not be refused then");
         Check.equal("there and back", 600, Twins.made(rowOfTwo(2, 2000)).bestTwo());
         Check.isTrue("not back over the chord that lies then", Twins.made(rowOfTwo(1, 2000)).bestTwo() != 600);
         Check.equal("just as much thread as both need", 600, Twins.made(rowOfTwo(2, 240)).bestTwo());
@@ -254,8 +248,10 @@ final class BestBounds {
         // From 0 to 6, and to a nail that is 5 from 6 and thus 1 from 0.
         Consumer<RingThreads> across = rowOfTwo(1, 2000).andThen(x -> x.set(0, 5));
         Check.equal("the pairs of 5 apart", firstOf(bestPairs(across)), Twins.made(across).bestTwo());
-        Check.equal("none behind the only one", NONE, Twins.made(rowOfTwo(1, 2000).andThen(x -> x.set(0, 6))).bestTwo());
-        Check.equal("back again behind the only one", 600, Twins.made(rowOfTwo(2, 2000).andThen(x -> x.set(0, 6))).bestTwo());
+        Check.equal("none behind the only one", NONE,
+            Twins.made(rowOfTwo(1, 2000).andThen(x -> x.set(0, 6))).bestTwo());
+        Check.equal("back again behind the only one", 600,
+            Twins.made(rowOfTwo(2, 2000).andThen(x -> x.set(0, 6))).bestTwo());
     }
 
     private void bothGains() {
@@ -288,13 +284,40 @@ final class BestBounds {
         for (int many : new int[] {4, 8, 12}) {
             Consumer<RingThreads> recipe = ((Consumer<RingThreads>) x -> x.nails(many)).andThen(even);
             List<Integer> pairs = bestPairs(recipe);
-            Check.isTrue("several pairs of " + many + " have several first nails", pairs.get(0) / 100 != pairs.get(pairs.size() - 1) / 100);
+            Check.isTrue("several pairs of " + many + " have several first nails",
+                pairs.get(0) / 100 != pairs.get(pairs.size() - 1) / 100);
             Check.equal("bestTwo() of " + many, firstOf(pairs), Twins.made(recipe).bestTwo());
         }
         Consumer<RingThreads> ofEight = ((Consumer<RingThreads>) x -> x.nails(8)).andThen(even);
         List<Integer> pairs = bestPairs(ofEight);
         Check.equal("two pairs have the same first nail", pairs.get(0) / 100, pairs.get(1) / 100);
         Check.equal("bestTwo() with the lowest second nail", firstOf(pairs), Twins.made(ofEight).bestTwo());
+        neitherTimesNorLengths();
+    }
+
+    /** From 5 the chord to 2 is shorter than that to 1, which gains as much; then it lies less often too. */
+    private static void neitherTimesNorLengths() {
+        String fromNoneToFive = "11,6 10,6 9,6 8,6 8,7 7,7 6,7 5,7 4,7 4,8 3,8 2,8 1,8 0,8 0,9";
+        RingThreads x = Twins.made(y -> {
+            y.set(2, 1);
+            Rings.want(y, fromNoneToFive, 1);
+        });
+        RingThreads z = Twins.made(y -> {
+            y.set(1, 2);
+            y.set(2, 1);
+            Rings.want(y, fromNoneToFive, 2);
+            y.wind(1);
+            y.wind(5);
+            y.wind(0);
+        });
+        for (RingThreads ring : new RingThreads[] {x, z}) {
+            ring.set(0, 3);
+            Check.equal("bestTwo() of chords of two lengths", 501, ring.bestTwo());
+            ring.wind(5);
+            Check.equal("gains of 1 and 2 behind the first one", ring.gain(1), ring.gain(2));
+            Check.equal("best() behind the first one", 2, ring.best());
+        }
+        Check.equal("the second one lies", 1, z.chord(5, 1, 2));
     }
 
     private static Consumer<RingThreads> lastSpool(int length) {
@@ -345,7 +368,8 @@ final class BestBounds {
         Check.equal("bestSpool() without thread", NONE, Twins.made(noThread).bestSpool());
         for (int spool = 0; spool <= 1; spool++) {
             int i = spool;
-            Check.equal("thread of one spool alone", i, Twins.made(noThread.andThen(x -> x.spool(i, 9, 31))).bestSpool());
+            Check.equal("thread of one spool alone", i,
+                Twins.made(noThread.andThen(x -> x.spool(i, 9, 31))).bestSpool());
             Check.equal("one less of it", NONE, Twins.made(noThread.andThen(x -> x.spool(i, 9, 30))).bestSpool());
         }
         Check.equal("thread of the last spool alone", 2, Twins.made(noThread.andThen(x -> {
@@ -379,7 +403,8 @@ final class BestBounds {
         Check.equal("the shade 2 on lacks of 2", 1, Twins.made(row.andThen(x -> x.set(2, 2))).bestSpool());
         Check.equal("the shade 1 on lacks of 1", 0, Twins.made(row.andThen(x -> x.set(2, 1))).bestSpool());
         Check.equal("the least loss of a bare face", 0, new RingThreads().bestSpool());
-        Check.equal("the best chord of the thread that is left", 1, Twins.made(row.andThen(x -> x.spool(2, 3, 119))).bestSpool());
+        Check.equal("the best chord of the thread that is left", 1,
+            Twins.made(row.andThen(x -> x.spool(2, 3, 119))).bestSpool());
         Check.equal("just enough thread", 2, Twins.made(row.andThen(x -> x.spool(2, 3, 120))).bestSpool());
         doc.promise(30, "the best chord from the nail of now would have the greatest gain, of several the lowest");
         for (int now = 0; now <= 2; now++) {
@@ -391,7 +416,8 @@ final class BestBounds {
                     x.knot(spool);
                 }
             };
-            Check.equal("of three of the same shade, " + spool + " is the one of now", 0, Twins.made(alike).bestSpool());
+            Check.equal("of three of the same shade, " + spool + " is the one of now", 0,
+                Twins.made(alike).bestSpool());
         }
         Check.equal("of two of the same shade", 1, Twins.made(row.andThen(x -> x.spool(1, 3, 2000))).bestSpool());
         // On lacks of 4 the shade 5 gains 5 - 2, no more than the shade 3 does.

@@ -13,21 +13,10 @@ final class ChordBounds {
 
     static void run(Sentences doc) {
         ChordBounds bounds = new ChordBounds(doc);
-        bounds.darkness();
-        bounds.sameNail();
-        bounds.nailsApart();
-        bounds.timesLying();
-        bounds.threadLeft();
-        bounds.firstReason();
-        bounds.wind();
-        bounds.windRefused();
-        bounds.most200();
-        bounds.unwound();
-        bounds.unwind();
-        bounds.windBestEnds();
-        bounds.windBest();
-        bounds.wound();
-        bounds.whyNot();
+        doc.run(
+            bounds::darkness, bounds::sameNail, bounds::nailsApart, bounds::timesLying, bounds::threadLeft,
+            bounds::firstReason, bounds::wind, bounds::windRefused, bounds::most200, bounds::unwound,
+            bounds::unwind, bounds::windBestEnds, bounds::windBest, bounds::wound, bounds::whyNot);
     }
 
     /** Tells the same by whyNot and by wind, of which the second one is counted. */
@@ -52,7 +41,9 @@ final class ChordBounds {
     }
 
     private void darkness() {
-        doc.named("Threads", "each square that it crosses becomes darker by the shade of the spool of now, once, however many of its points lie in it");
+        doc.named("Threads",
+            "each square that it crosses becomes darker by the shade of the spool of now, once, however many of its "
+            + "points lie in it");
         for (int shade : new int[] {1, 9}) {
             RingThreads x = Twins.made(Rings.thread(shade, 120).andThen(y -> y.wind(6)));
             Check.equal("the first of 12 squares, of 10 points and an end", shade, x.square(11, 6, 1));
@@ -66,7 +57,8 @@ final class ChordBounds {
             y.wind(0);
         });
         Check.equal("darkness of two chords", 4, twice.square(11, 6, 1));
-        doc.named("Threads", "the thread of the spool becomes less by the length of the chord; the thread is at the other nail then");
+        doc.named("Threads",
+            "the thread of the spool becomes less by the length of the chord; the thread is at the other nail then");
         Check.equal("thread of the first spool", 1880, twice.spoolOf(0, 1));
         Check.equal("thread of the last spool", 1880, twice.spoolOf(2, 1));
         Check.equal("the nail of now", 0, twice.count(1));
@@ -230,7 +222,7 @@ final class ChordBounds {
             x.spool(2, 1, 0);
             x.knot(2);
         }), x -> x.wind(9));
-        Twins.state("wind(0), too near and too often", Rings.around(200).andThen(x -> {
+        Twins.state("wind(7), too near and too often", Rings.around(200).andThen(x -> {
             x.set(0, 6);
             x.set(1, 1);
         }), x -> x.wind(7));
@@ -270,7 +262,9 @@ final class ChordBounds {
         Check.equal("all darkness, of the first chord", 12, darknessOfAll(twice));
         Check.equal("the thread of the last spool", 2000, twice.spoolOf(2, 1));
         Check.equal("the thread of the first spool", 1880, twice.spoolOf(0, 1));
-        doc.named("Threads", "and the thread is at the nail where it was ahead of it; the spool of now is then the one of that chord (that is no knot)");
+        doc.named("Threads",
+            "and the thread is at the nail where it was ahead of it; the spool of now is then the one of that chord "
+            + "(that is no knot)");
         Check.equal("the nail", 6, twice.count(1));
         Check.equal("the spool", 2, twice.count(2));
         Check.equal("knots", 2, twice.count(6));
@@ -322,9 +316,7 @@ final class ChordBounds {
         Check.equal("best()", 2, none.best());
         Check.equal("windBest(50) of a gain of 0", 0, none.windBest(50));
         Check.equal("chords that lie", 0, none.count(3));
-        RingThreads one = Twins.made(plain.andThen(x -> Check.load(x, "e00000000001;d0000000001;c000000001;b00000001")));
-        one.want(10, 4, 1);
-        one.want(11, 4, 0);
+        RingThreads one = Twins.made(Rings.wanted("10,4 9,3 8,2 7,1", 1));
         Check.equal("gain(3)", 10001, one.gain(3));
         Check.equal("windBest(50) of a gain of 1", 1, one.windBest(50));
         Check.equal("the nail of now", 3, one.count(1));

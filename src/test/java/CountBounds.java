@@ -10,15 +10,9 @@ final class CountBounds {
 
     static void run(Sentences doc) {
         CountBounds bounds = new CountBounds(doc);
-        bounds.none();
-        bounds.nothingChanged();
-        bounds.firstNamed();
-        bounds.counts();
-        bounds.misfits();
-        bounds.squares();
-        bounds.countTaken();
-        bounds.digest();
-        bounds.digestParts();
+        doc.run(
+            bounds::none, bounds::nothingChanged, bounds::firstNamed, bounds::counts, bounds::misfits,
+            bounds::squares, bounds::countTaken, bounds::digest, bounds::digestParts);
     }
 
     private void none() {
@@ -70,7 +64,8 @@ final class CountBounds {
     }
 
     private void firstNamed() {
-        doc.named("Exceptions", "If several exceptions apply, the one that is named first in the throws clause is thrown.");
+        doc.named("Exceptions",
+            "If several exceptions apply, the one that is named first in the throws clause is thrown.");
         Consumer<RingThreads> busy = Rings::busy;
         Twins.outside("spool(3, 0, -1)", busy, x -> x.spool(3, 0, -1));
         Twins.argument("spool(2, 0, 1), the one of now", busy, x -> x.spool(2, 0, 1));
@@ -94,7 +89,9 @@ final class CountBounds {
     }
 
     private void counts() {
-        doc.promise(23, "0: nails; 1: the nail of now; 2: the spool of now; 3: chords that lie; 4: chords wound so far; 5: chords that were");
+        doc.promise(23,
+            "0: nails; 1: the nail of now; 2: the spool of now; 3: chords that lie; 4: chords wound so far; 5: "
+            + "chords that were");
         counts("of a new ring", new RingThreads(), 12, 0, 0, 0, 0, 0, 0, 0, 0, 0, 0, 0, 0);
         RingThreads x = Twins.made(Rings.around(200));
         int thread = 9999 - x.spoolOf(1, 1);
@@ -105,7 +102,11 @@ final class CountBounds {
             dark += x.square(i % 12, i / 12, 3) > 0 ? 1 : 0;
         }
         counts("of 200 chords", x, 24, 8, 1, 200, 200, 0, 1, misfit, misfit, 0, dark, thread, 6);
-        RingThreads y = Twins.made(Rings.around(200).andThen(z -> z.unwind()).andThen(z -> z.wind(7)).andThen(z -> z.wind(8)));
+        RingThreads y = Twins.made(Rings.around(200).andThen(z -> {
+            z.unwind();
+            z.wind(7);
+            z.wind(8);
+        }));
         counts("of a ring wound again", y, 24, 8, 1, 200, 201, 1, 1, misfit, misfit, 0, dark, thread, 6);
         RingThreads last = Twins.made(z -> {
             z.nails(4);
@@ -118,7 +119,9 @@ final class CountBounds {
     }
 
     private void misfits() {
-        doc.promise(23, "7: the misfit, told by all squares as they are; 8: the misfit, told by that of the bare ring, less the gains of all chords that lie, one after the other, as they lie");
+        doc.promise(23,
+            "7: the misfit, told by all squares as they are; 8: the misfit, told by that of the bare ring, less the "
+            + "gains of all chords that lie, one after the other, as they lie");
         RingThreads x = Twins.made(y -> {
             y.set(1, 2);
             y.set(2, 1);
@@ -189,7 +192,9 @@ final class CountBounds {
     private void digest() {
         doc.promise(32, "The hash starts at 3301.");
         DigestTest.compare("a new ring", Rings::fresh, 0, "");
-        doc.promise(32, "For each value v of the following list, in order, the hash becomes 31 * hash + v, in long arithmetic with overflow.");
+        doc.promise(32,
+            "For each value v of the following list, in order, the hash becomes 31 * hash + v, in long arithmetic "
+            + "with overflow.");
         DigestTest.compare("a busy ring", Rings::busy, 3, "a12;b");
         doc.promise(32, "Computes a hash of the whole state.");
         Twins.alike("digest changes nothing", Rings.around(9).andThen(x -> x.digest()), Rings.around(9));

@@ -16,18 +16,10 @@ final class FaceBounds {
 
     static void run(Sentences doc) {
         FaceBounds bounds = new FaceBounds(doc);
-        bounds.greys();
-        bounds.lacks();
-        bounds.misfit();
-        bounds.want();
-        bounds.wantRefused();
-        bounds.turned();
-        bounds.mirrored();
-        bounds.opposite();
-        bounds.turnFace();
-        bounds.square();
-        bounds.palest();
-        bounds.shownShare();
+        doc.run(
+            bounds::greys, bounds::lacks, bounds::misfit, bounds::want, bounds::wantRefused, bounds::turned,
+            bounds::mirrored, bounds::opposite, bounds::turnFace, bounds::square, bounds::palest,
+            bounds::shownShare);
     }
 
     private void greys() {
@@ -224,7 +216,9 @@ final class FaceBounds {
         doc.promise(22, "- `y`: 0 to 11");
         Check.equal("square(11, 11, 0)", 3, x.square(11, 11, 0));
         Check.equal("square(0, 11, 0)", 4, x.square(0, 11, 0));
-        doc.promise(22, "- `what`: 0: its wanted grey; 1: its darkness; 2: its lack, plus 10000; 3: how many chords that lie cross it");
+        doc.promise(22,
+            "- `what`: 0: its wanted grey; 1: its darkness; 2: its lack, plus 10000; 3: how many chords that lie "
+            + "cross it");
         RingThreads y = Twins.made(Rings.thread(9, 2000).andThen(z -> {
             z.set(1, 2);
             z.want(0, 6, 9);
@@ -249,7 +243,8 @@ final class FaceBounds {
         Check.equal("square(0, 6, 2) behind unwind", 10018, y.square(0, 6, 2));
         doc.promise(22, "Throws `IndexOutOfBoundsException` if there is no such square");
         for (int[] square : NO_SQUARES) {
-            Twins.outside("square(" + square[0] + ", " + square[1] + ", 0)", Rings::busy, z -> z.square(square[0], square[1], 0));
+            Twins.outside("square(" + square[0] + ", " + square[1] + ", 0)", Rings::busy,
+                z -> z.square(square[0], square[1], 0));
         }
         Twins.outside("square(0, 12, 4), ahead of the other exception", Rings::busy, z -> z.square(0, 12, 4));
         Twins.outside("square(-1, 0, -1), ahead of the other exception", Rings::busy, z -> z.square(-1, 0, -1));

@@ -13,19 +13,10 @@ final class RingBounds {
 
     static void run(Sentences doc) {
         RingBounds bounds = new RingBounds(doc);
-        bounds.calls512();
-        bounds.places();
-        bounds.nailsAtPlaces();
-        bounds.squaresOfPoints();
-        bounds.sameChordBack();
-        bounds.crossedSquares();
-        bounds.lengths();
-        bounds.newObject();
-        bounds.nailsTaken();
-        bounds.nailsRefused();
-        bounds.nailsChange();
-        bounds.nailOf();
-        bounds.chord();
+        doc.run(
+            bounds::calls512, bounds::places, bounds::nailsAtPlaces, bounds::squaresOfPoints, bounds::sameChordBack,
+            bounds::crossedSquares, bounds::lengths, bounds::newObject, bounds::nailsTaken, bounds::nailsRefused,
+            bounds::nailsChange, bounds::nailOf, bounds::chord);
     }
 
     private void calls512() {
@@ -57,7 +48,9 @@ final class RingBounds {
         Check.equal("y of the place 6, the first behind the turn", 120, x.nailOf(6, 1));
         Check.equal("y of the place 7", 118, x.nailOf(7, 1));
         doc.named("The ring", "c(0) to c(23) are 60, 58, 52, 42, 30, 16, 0, -16, -30, -42, -52, -58, -60");
-        int[] c = {60, 58, 52, 42, 30, 16, 0, -16, -30, -42, -52, -58, -60, -58, -52, -42, -30, -16, 0, 16, 30, 42, 52, 58};
+        int[] c = {
+            60, 58, 52, 42, 30, 16, 0, -16, -30, -42, -52, -58, -60, -58, -52, -42, -30, -16, 0, 16, 30, 42, 52, 58
+        };
         for (int k = 0; k < 24; k++) {
             Check.equal("x of the place " + k, 60 + c[k], x.nailOf(k, 0));
             Check.equal("y of the place " + k, 60 + c[(k + 18) % 24], x.nailOf(k, 1));
@@ -65,7 +58,8 @@ final class RingBounds {
     }
 
     private void nailsAtPlaces() {
-        doc.named("The ring", "There are 4, 6, 8, 12 or 24 nails, at first 12, numbered from 0: the nail j is at the place j * 24");
+        doc.named("The ring",
+            "There are 4, 6, 8, 12 or 24 nails, at first 12, numbered from 0: the nail j is at the place j * 24");
         Check.equal("nails at first", 12, new RingThreads().count(0));
         RingThreads places = Twins.made(y -> y.nails(24));
         for (int many : EACH_MANY) {
@@ -225,7 +219,9 @@ final class RingBounds {
 
     private void nailsRefused() {
         doc.promise(2, "Throws `IllegalArgumentException` if many is none of these");
-        int[] none = {3, 5, 7, 9, 10, 11, 13, 16, 18, 23, 25, 48, 2, 1, 0, -1, -4, -12, Integer.MAX_VALUE, Integer.MIN_VALUE};
+        int[] none = {
+            3, 5, 7, 9, 10, 11, 13, 16, 18, 23, 25, 48, 2, 1, 0, -1, -4, -12, Integer.MIN_VALUE, Integer.MAX_VALUE
+        };
         for (int many : none) {
             Twins.argument("nails(" + many + ")", Rings::busy, x -> x.nails(many));
         }
@@ -258,10 +254,39 @@ final class RingBounds {
         Check.equal("the nail of now, of one that is no more", 0, z.count(1));
         Check.equal("the spool of now, not that of a chord", 1, z.count(2));
         Check.equal("knots so far stay", 2, z.count(6));
+        othersStay();
         doc.promise(2, "Undoable.");
         Twins.undoable("nails(8)", Rings::busy, w -> w.nails(8));
         Twins.undoable("nails(24), as many as there were", Rings::busy, w -> w.nails(24));
         Twins.undoable("nails(12), without a chord", Rings::fresh, w -> w.nails(12));
+    }
+
+    private void othersStay() {
+        doc.promise(2, "Takes another number of nails: all chords are taken off");
+        RingThreads x = Twins.made(y -> {
+            y.set(0, 2);
+            y.set(1, 3);
+            y.set(2, 7);
+            y.spool(1, 8, 777);
+            y.knot(2);
+            y.want(11, 11, 9);
+            y.wind(6);
+            y.wind(6);
+            Check.type(y, "a1");
+        });
+        for (int many : new int[] {24, 4, 6, 8, 12}) {
+            x.nails(many);
+            int[] due = {many, 0, 2, 0, 1, 1, 1, 63, 63, 1, 0, 0, 6};
+            for (int what = 0; what < due.length; what++) {
+                Check.equal("count(" + what + ") behind nails(" + many + ")", due[what], x.count(what));
+            }
+            Check.equal("setting(0)", 2, x.setting(0));
+            Check.equal("setting(1)", 3, x.setting(1));
+            Check.equal("setting(2)", 7, x.setting(2));
+            Check.equal("shade of 1", 8, x.spoolOf(1, 0));
+            Check.equal("thread of 1", 777, x.spoolOf(1, 1));
+            Check.equal("the buffer", 2, x.firstError());
+        }
     }
 
     private void nailOf() {
@@ -271,7 +296,9 @@ final class RingBounds {
             Check.equal("nailOf(0, 3)", 1, x.nailOf(0, 3));
             Check.equal("nailOf(the last, 3)", 0, x.nailOf(many - 1, 3));
         }
-        doc.promise(18, "- `what`: 0: the x, 1: the y of its point; 2: how often a chord that lies begins or ends at it; 3: 1 if the thread");
+        doc.promise(18,
+            "- `what`: 0: the x, 1: the y of its point; 2: how often a chord that lies begins or ends at it; 3: 1 "
+            + "if the thread");
         RingThreads x = Twins.made(Rings.around(24));
         int[][] due = {{120, 60, 2, 1}, {118, 76, 2, 0}, {118, 44, 2, 0}};
         for (int what = 0; what <= 3; what++) {
@@ -331,7 +358,8 @@ final class RingBounds {
         Twins.outside("chord(0, -1, 0)", Rings::busy, z -> z.chord(0, -1, 0));
         Twins.outside("chord(-1, -1, 0), both the same", Rings::busy, z -> z.chord(-1, -1, 0));
         Twins.outside("chord(24, 24, 0), both the same", Rings::busy, z -> z.chord(24, 24, 0));
-        Twins.outside("chord(the least, the greatest, 0)", Rings::busy, z -> z.chord(Integer.MIN_VALUE, Integer.MAX_VALUE, 0));
+        Twins.outside("chord(the least, the greatest, 0)", Rings::busy,
+            z -> z.chord(Integer.MIN_VALUE, Integer.MAX_VALUE, 0));
         Twins.outside("chord(0, 24, 3), ahead of the other exception", Rings::busy, z -> z.chord(0, 24, 3));
         doc.promise(20, "Throws `IllegalArgumentException` if what is not 0 to 2");
         Twins.argument("chord(0, 1, 3)", Rings::busy, z -> z.chord(0, 1, 3));

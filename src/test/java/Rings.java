@@ -52,10 +52,14 @@ final class Rings {
         return x -> {
             x.nails(4);
             x.set(2, 1);
-            for (String square : squares.split(" ")) {
-                String[] parts = square.split(",");
-                x.want(Integer.parseInt(parts[0]), Integer.parseInt(parts[1]), grey);
-            }
+            want(x, squares, grey);
         };
+    }
+
+    static void want(RingThreads x, String squares, int grey) {
+        for (String square : squares.split(" ")) {
+            String[] parts = square.split(",");
+            x.want(Integer.parseInt(parts[0]), Integer.parseInt(parts[1]), grey);
+        }
     }
 }

@@ -12,10 +12,12 @@ import java.util.Map;
  */
 final class Sentences {
     /** Headings under which no sentence must be named, since they sum up, or tell what is free. */
-    private static final List<String> FREE = List.of("RingThreads", "What it is", "The public face", "Terms", "Not promised");
+    private static final List<String> FREE = List.of("RingThreads", "What it is", "The public face", "Terms",
+        "Not promised");
 
     private final Map<String, String> texts = new LinkedHashMap<>();
     private final Map<String, List<String>> unnamed = new LinkedHashMap<>();
+    private int names;
     private String now = "";
     private int checksAhead;
 
@@ -39,11 +41,23 @@ final class Sentences {
         }
     }
 
+    /** A test that ends by an exception is a fault of the sentence that it named last. */
+    void run(Runnable... tests) {
+        for (Runnable test : tests) {
+            try {
+                test.run();
+            } catch (RuntimeException e) {
+                Check.equal("the rest of the test", "no exception", e.toString());
+            }
+        }
+    }
+
     /** All checks from here on hold the class to these words, a sentence or a part of one. */
     void named(String section, String words) {
         endOfName();
         Check.isTrue(section + " says \"" + words + "\"", texts.getOrDefault(section, "").contains(words));
         unnamed.getOrDefault(section, new ArrayList<>()).removeIf(sentence -> sentence.contains(words));
+        names++;
         now = section + ", \"" + words + "\"";
         Check.heading(now + ": ");
         checksAhead = Check.made();
@@ -61,9 +75,11 @@ final class Sentences {
     /** To be called behind the last test. */
     void allAreNamed() {
         endOfName();
+        System.out.println("     " + names + " sentences and parts of them are named");
         for (Map.Entry<String, List<String>> entry : unnamed.entrySet()) {
             for (String sentence : entry.getValue()) {
-                Check.equal("the sentence of " + entry.getKey() + " \"" + sentence + "\"", "named by a test", "not named");
+                Check.equal("the sentence of " + entry.getKey() + " \"" + sentence + "\"", "named by a test",
+                    "not named");
             }
         }
     }

@@ -10,16 +10,9 @@ final class SpoolBounds {
 
     static void run(Sentences doc) {
         SpoolBounds bounds = new SpoolBounds(doc);
-        bounds.atFirst();
-        bounds.knots();
-        bounds.spoolTaken();
-        bounds.spoolRefused();
-        bounds.spoolInUse();
-        bounds.knot();
-        bounds.settings();
-        bounds.set();
-        bounds.spoolOf();
-        bounds.setting();
+        doc.run(
+            bounds::atFirst, bounds::knots, bounds::spoolTaken, bounds::spoolRefused, bounds::spoolInUse,
+            bounds::knot, bounds::settings, bounds::set, bounds::spoolOf, bounds::setting);
     }
 
     private void atFirst() {
@@ -28,7 +21,9 @@ final class SpoolBounds {
         Check.equal("the first spool is the one of now", 1, x.spoolOf(0, 4));
         Check.equal("the last spool is not", 0, x.spoolOf(2, 4));
         Twins.outside("a fourth spool", Rings::fresh, y -> y.spoolOf(3, 0));
-        doc.named("Threads", "a spool has a shade, 1 to 9 (at first 1, 2 and 3), and a length of thread that is left, 0 to 9999, at first 2000");
+        doc.named("Threads",
+            "a spool has a shade, 1 to 9 (at first 1, 2 and 3), and a length of thread that is left, 0 to 9999, at "
+            + "first 2000");
         for (int spool = 0; spool < 3; spool++) {
             Check.equal("shade of " + spool, spool + 1, x.spoolOf(spool, 0));
             Check.equal("thread of " + spool, 2000, x.spoolOf(spool, 1));
@@ -98,9 +93,12 @@ final class SpoolBounds {
             Twins.argument("spool(1, " + far + ", 1)", Rings::busy, y -> y.spool(1, far, 1));
             Twins.argument("spool(1, 1, " + far + ")", Rings::busy, y -> y.spool(1, 1, far));
         }
-        Twins.argument("spool(2, 10, 1) of the one of now, ahead of the third exception", Rings::busy, y -> y.spool(2, 10, 1));
-        Twins.argument("spool(2, 1, -1) of the one of now, ahead of the third exception", Rings::busy, y -> y.spool(2, 1, -1));
-        Twins.argument("spool(0, 0, 1) of one that lies, ahead of the third exception", Rings::busy, y -> y.spool(0, 0, 1));
+        Twins.argument("spool(2, 10, 1) of the one of now, ahead of the third exception", Rings::busy,
+            y -> y.spool(2, 10, 1));
+        Twins.argument("spool(2, 1, -1) of the one of now, ahead of the third exception", Rings::busy,
+            y -> y.spool(2, 1, -1));
+        Twins.argument("spool(0, 0, 1) of one that lies, ahead of the third exception", Rings::busy,
+            y -> y.spool(0, 0, 1));
     }
 
     private void spoolInUse() {
@@ -109,7 +107,8 @@ final class SpoolBounds {
         Twins.state("spool(2, 1, 1), the one of now", Rings::busy, y -> y.spool(2, 1, 1));
         Twins.state("spool(0, 1, 1), that lies", Rings::busy, y -> y.spool(0, 1, 1));
         Twins.state("spool(0, 1, 2000), that lies, as it was", Rings::busy, y -> y.spool(0, 1, 2000));
-        Twins.state("spool(1, 1, 1), of which all 200 chords are", Rings.around(200).andThen(y -> y.knot(0)), y -> y.spool(1, 1, 1));
+        Twins.state("spool(1, 1, 1), of which all 200 chords are", Rings.around(200).andThen(y -> y.knot(0)),
+            y -> y.spool(1, 1, 1));
         RingThreads z = Twins.made(y -> {
             y.wind(6);
             y.knot(1);
@@ -245,7 +244,9 @@ final class SpoolBounds {
         RingThreads x = Twins.made(Rings.around(200));
         Check.equal("spoolOf(0, 0)", 1, x.spoolOf(0, 0));
         Check.equal("spoolOf(2, 0)", 3, x.spoolOf(2, 0));
-        doc.promise(19, "- `what`: 0: its shade; 1: the thread that is left; 2: the thread of it that lies; 3: chords of it that lie; 4: 1 if it is the one");
+        doc.promise(19,
+            "- `what`: 0: its shade; 1: the thread that is left; 2: the thread of it that lies; 3: chords of it "
+            + "that lie; 4: 1 if it is the one");
         int round = 0;
         for (int nail = 0; nail < 24; nail++) {
             round += x.chord(nail, (nail + 1) % 24, 0);

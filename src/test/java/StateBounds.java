@@ -3,6 +3,7 @@ import java.util.function.Consumer;
 
 /** The bounds of snapshots and undo: "Snapshots, undo", promises 15, 16 and 17. */
 final class StateBounds {
+    private static final String THREE_SPOOLS = "8 4 0, 1 8 1, 6 1 2, 0 6 0";
     private static final int[] NO_SLOTS = {2, -1, 3, Integer.MIN_VALUE, Integer.MAX_VALUE};
 
     private final Sentences doc;
@@ -13,17 +14,10 @@ final class StateBounds {
 
     static void run(Sentences doc) {
         StateBounds bounds = new StateBounds(doc);
-        bounds.twoSlots();
-        bounds.allOfASnapshot();
-        bounds.notOfASnapshot();
-        bounds.savedByEach();
-        bounds.notSaved();
-        bounds.allOfASavedState();
-        bounds.sixStates();
-        bounds.dropped();
-        bounds.keep();
-        bounds.goBack();
-        bounds.undo();
+        doc.run(
+            bounds::twoSlots, bounds::allOfASnapshot, bounds::notOfASnapshot, bounds::savedByEach, bounds::notSaved,
+            bounds::allOfASavedState, bounds::sixStates, bounds::dropped, bounds::keep, bounds::goBack,
+            bounds::undo);
     }
 
     private void twoSlots() {
@@ -70,11 +64,53 @@ final class StateBounds {
         changeAll(x);
         x.goBack(1);
         Check.equal("the digest of the snapshot of a snapshot", due, x.digest());
+        Consumer<RingThreads> chords = y -> {
+            threeSpools(y);
+            y.keep(1);
+            otherChords(y);
+            y.goBack(1);
+        };
+        Check.equal("chords of three spools", THREE_SPOOLS, chordsOf(Twins.made(chords)));
         RingThreads full = Twins.made(Rings.around(200).andThen(y -> y.keep(1)));
-        full.nails(4);
+        otherChords(full);
         Check.equal("goBack(1) to 200 chords", 200, full.goBack(1));
+        aroundAgain(full);
+    }
+
+    private static void threeSpools(RingThreads x) {
+        x.wind(6);
+        x.knot(2);
+        x.wind(1);
+        x.knot(1);
+        x.wind(8);
+        x.knot(0);
+        x.wind(4);
+    }
+
+    /** Writes over what was held of chords, by 5 calls of which each saves a state. */
+    private static void otherChords(RingThreads x) {
+        x.nails(24);
+        x.wind(21);
+        x.knot(x.count(2) == 0 ? 1 : 0);
+        x.wind(13);
+        x.wind(3);
+    }
+
+    private static String chordsOf(RingThreads x) {
+        StringBuilder chords = new StringBuilder();
+        for (int ago = 0; ago < x.count(3); ago++) {
+            chords.append(x.wound(ago, 0)).append(' ').append(x.wound(ago, 1)).append(' ').append(x.wound(ago, 2));
+            chords.append(ago + 1 < x.count(3) ? ", " : "");
+        }
+        return chords.toString();
+    }
+
+    private static void aroundAgain(RingThreads x) {
         for (int ago = 0; ago < 200; ago++) {
-            Check.equal("the nail of the chord " + ago, (200 - ago) % 24, full.wound(ago, 1));
+            Check.equal("the nail to which the chord " + ago + " leads", (200 - ago) % 24, x.wound(ago, 1));
+        }
+        for (int ago = 0; ago < 50; ago++) {
+            Check.equal("the nail of the chord " + (199 - ago), ago % 24, x.wound(199 - ago, 0));
         }
     }
 
@@ -105,7 +141,8 @@ final class StateBounds {
     }
 
     private void savedByEach() {
-        doc.named("Snapshots, undo", "Each method that is marked \"undoable\" and does not throw an exception saves the state from before it");
+        doc.named("Snapshots, undo",
+            "Each method that is marked \"undoable\" and does not throw an exception saves the state from before it");
         Consumer<RingThreads> busy = x -> {
             Rings.busy(x);
             x.clearBuffer();
@@ -129,9 +166,10 @@ final class StateBounds {
         doc.named("Snapshots, undo", "that is marked \"undoable\"");
         List<Consumer<RingThreads>> calls = List.of(
             x -> x.append('a'), x -> x.clearBuffer(), x -> x.firstError(), x -> x.keep(0), x -> x.keep(1),
-            x -> x.nailOf(0, 0), x -> x.spoolOf(0, 0), x -> x.chord(0, 1, 0), x -> x.wound(0, 0), x -> x.square(0, 0, 0),
-            x -> x.count(8), x -> x.setting(0), x -> x.whyNot(0), x -> x.gain(1), x -> x.best(), x -> x.bestTwo(),
-            x -> x.palest(), x -> x.bestSpool(), x -> x.shownShare(), x -> x.digest());
+            x -> x.nailOf(0, 0), x -> x.spoolOf(0, 0), x -> x.chord(0, 1, 0), x -> x.wound(0, 0),
+            x -> x.square(0, 0, 0), x -> x.count(8), x -> x.setting(0), x -> x.whyNot(0), x -> x.gain(1),
+            x -> x.best(), x -> x.bestTwo(), x -> x.palest(), x -> x.bestSpool(), x -> x.shownShare(),
+            x -> x.digest());
         for (int i = 0; i < calls.size(); i++) {
             RingThreads x = Twins.made(Rings::busy);
             calls.get(i).accept(x);
@@ -286,11 +324,20 @@ final class StateBounds {
         Check.equal("chords", 1, y.count(3));
         Check.equal("undo()", 0, y.undo());
         Check.equal("chords", 0, y.count(3));
-        RingThreads full = Twins.made(Rings.around(200).andThen(z -> z.nails(4)));
-        Check.equal("undo() of nails that took 200 chords off", 5, full.undo());
-        for (int ago = 0; ago < 200; ago++) {
-            Check.equal("the nail of the chord " + ago, (200 - ago) % 24, full.wound(ago, 1));
+        Consumer<RingThreads> undone = z -> {
+            threeSpools(z);
+            otherChords(z);
+            for (int call = 1; call <= 5; call++) {
+                z.undo();
+            }
+        };
+        Check.equal("chords of three spools", THREE_SPOOLS, chordsOf(Twins.made(undone)));
+        RingThreads full = Twins.made(Rings.around(200));
+        otherChords(full);
+        for (int left = 5; left >= 1; left--) {
+            Check.equal("undo() to 200 chords", left, full.undo());
         }
+        aroundAgain(full);
         doc.promise(17, "Throws `IllegalStateException` if there is none");
         Twins.state("undo() at first", Rings::fresh, z -> z.undo());
         Twins.state("undo() behind the only one", z -> {

@@ -15,17 +15,9 @@ final class TextBounds {
 
     static void run(Sentences doc) {
         TextBounds bounds = new TextBounds(doc);
-        bounds.most60();
-        bounds.rows();
-        bounds.letters();
-        bounds.digits();
-        bounds.stars();
-        bounds.syntaxErrors();
-        bounds.append();
-        bounds.clearBuffer();
-        bounds.firstError();
-        bounds.load();
-        bounds.loadRefused();
+        doc.run(
+            bounds::most60, bounds::rows, bounds::letters, bounds::digits, bounds::stars, bounds::syntaxErrors,
+            bounds::append, bounds::clearBuffer, bounds::firstError, bounds::load, bounds::loadRefused);
     }
 
     private static String row(RingThreads x, int y) {
@@ -134,7 +126,9 @@ final class TextBounds {
     }
 
     private void syntaxErrors() {
-        doc.named("Input text", "a character is a syntax error if no face as a text, of any length, begins with the characters before it and this character");
+        doc.named("Input text",
+            "a character is a syntax error if no face as a text, of any length, begins with the characters before "
+            + "it and this character");
         allowed("", LETTERS);
         allowed("a", DIGITS + "*");
         allowed("l*", DIGITS);
@@ -177,7 +171,8 @@ final class TextBounds {
         int[] codes = {32, 127, 0, -1, -33, 128, 65536 + 97, 256 + 97, Integer.MIN_VALUE, Integer.MAX_VALUE};
         for (int code : codes) {
             Twins.argument("append(" + code + ")", Rings::busy, w -> w.append(code));
-            Twins.argument("append(" + code + ") of the 61st, ahead of the other exception", Rings.typed(FULL), w -> w.append(code));
+            Twins.argument("append(" + code + ") of the 61st, ahead of the other exception", Rings.typed(FULL),
+                w -> w.append(code));
         }
         doc.promise(11, "Throws `IllegalStateException` if the buffer has 60 characters");
         Twins.state("append(33)", Rings.typed(FULL), w -> w.append(33));
@@ -224,7 +219,8 @@ final class TextBounds {
     }
 
     private void load() {
-        doc.promise(14, "Makes the greys those that the buffer tells, row by row (a later row of the same letter holds)");
+        doc.promise(14,
+            "Makes the greys those that the buffer tells, row by row (a later row of the same letter holds)");
         Check.equal("a star behind digits", "444444444444", row(loaded("b123456789012;b*4", 12), 1));
         Check.equal("digits behind a star", "123333333333", row(loaded("b*3;b12", 12), 1));
         Check.equal("digits behind digits", "521000000000", row(loaded("b321;b52", 3), 1));
